@@ -705,8 +705,8 @@ public final class OrchardWall {
         int hens = 0;
         int trees = 0;
         int raiders = 0;
-        final int[] henCell = new int[MOST_HENS];
-        final int[] henLoud = new int[MOST_HENS];
+        /** Of each cell how loud all hens in it or beside it are. */
+        final int[] loud = new int[CELLS];
         final int[] treeCell = new int[MOST_TREES];
         final int[] treeWorth = new int[MOST_TREES];
         final int[] kinds = new int[MOST_RAIDERS];
@@ -717,6 +717,7 @@ public final class OrchardWall {
             hens = 0;
             trees = 0;
             raiders = 0;
+            Arrays.fill(loud, 0);
             Arrays.fill(now, 0);
             for (int raider = 0; raider < MOST_RAIDERS; raider++) {
                 now[PLAN_TREE + raider] = -1;
@@ -733,8 +734,7 @@ public final class OrchardWall {
             hens = other.hens;
             trees = other.trees;
             raiders = other.raiders;
-            System.arraycopy(other.henCell, 0, henCell, 0, MOST_HENS);
-            System.arraycopy(other.henLoud, 0, henLoud, 0, MOST_HENS);
+            System.arraycopy(other.loud, 0, loud, 0, CELLS);
             System.arraycopy(other.treeCell, 0, treeCell, 0, MOST_TREES);
             System.arraycopy(other.treeWorth, 0, treeWorth, 0, MOST_TREES);
             System.arraycopy(other.kinds, 0, kinds, 0, MOST_RAIDERS);
@@ -776,14 +776,13 @@ public final class OrchardWall {
             return true;
         }
 
-        int loudAt(int cell) {
-            int loud = 0;
-            for (int hen = 0; hen < hens; hen++) {
-                if (distance(henCell[hen], cell) <= 1) {
-                    loud += henLoud[hen];
+        void addHens(int cell, int howLoud) {
+            hens++;
+            for (int near = 0; near < CELLS; near++) {
+                if (distance(near, cell) <= 1) {
+                    loud[near] += howLoud;
                 }
             }
-            return loud;
         }
     }
 
@@ -853,15 +852,15 @@ public final class OrchardWall {
                     return fail(NO_ROOM);
                 }
                 advance();
-                into.henCell[hen] = takeField(0, 23, 0, ',');
-                if (into.henCell[hen] < 0) {
+                int cell = takeField(0, 23, 0, ',');
+                if (cell < 0) {
                     return false;
                 }
-                into.henLoud[hen] = takeField(1, 9, 0, ';');
-                if (into.henLoud[hen] < 0) {
+                int loud = takeField(1, 9, 0, ';');
+                if (loud < 0) {
                     return false;
                 }
-                into.hens = hen + 1;
+                into.addHens(cell, loud);
             }
             return true;
         }
@@ -1107,7 +1106,7 @@ public final class OrchardWall {
             boolean isGoing = doing[raider] == GOING;
             steps[raider] += isGoing ? 1 : -1;
             int goalCell = orchard.treeCell[goal[raider]];
-            noise += orchard.loudAt(cellOnWay(orchard.entry, goalCell, steps[raider]));
+            noise += orchard.loud[cellOnWay(orchard.entry, goalCell, steps[raider])];
             if (isGoing && steps[raider] == distance(orchard.entry, goalCell)) {
                 doing[raider] = PICKING;
             } else if (!isGoing && steps[raider] == 0) {
