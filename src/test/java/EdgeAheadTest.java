@@ -207,6 +207,14 @@ public final class EdgeAheadTest {
             check.due("best with " + others, x.bestAlone(0, 1), 5);
             check.due("his own plan stays", x.raider(0, 2), 1);
         }
+        for (String others : new String[] {"w1;w1;w1;", "k1;k1;k1;", "p20;w1;k1;", "p20;q20;s20;"}) {
+            OrchardWall x = Check.told("o0,5,4,9,0;t4,30,2;" + others + "p20;");
+            for (int raider = 0; raider < 4; raider++) {
+                x.plan(raider, 0, 20, 1);
+            }
+            check.due("safe behind " + others, x.safe(3, 0, 0), 5);
+            check.due("best behind " + others, x.bestAlone(3, 1), 5);
+        }
     }
 
     private static void safeIsRefused() {
@@ -312,6 +320,14 @@ public final class EdgeAheadTest {
         watched.plan(0, 0, 20, 1);
         watched.plan(1, 1, 20, 1);
         check.due("two watches", watched.watch(1), 1 - 2);
+        // The quick one throws in 3, and the watch calls in 3: the other, who would have one in 4, has none.
+        OrchardWall atOnce = Check.told("o0,1,2,9,40;t2,30,1;t7,30,1;p20;q20;p20;");
+        atOnce.plan(0, 0, 20, 0);
+        atOnce.plan(1, 0, 20, 1);
+        atOnce.plan(2, 1, 20, 0);
+        // Called in 12 without her: 5 and 5 carried, 5 thrown.
+        check.due("no watch", atOnce.ahead(0), 15);
+        check.due("at once", atOnce.watch(0), 1 - 15);
     }
 
     private static void watchIsRefused() {

@@ -198,6 +198,11 @@ public final class EdgeAsksTest {
         check.due("16", x.trace(16), NONE);
         check.due("least", x.trace(LEAST), NONE);
         check.due("greatest", x.trace(GREATEST), NONE);
+        x.image(0);
+        x.restore(0);
+        check.due("an image leaves it", x.trace(5), 20);
+        Check.tell(x, "o0,1,1,0,0;w1;");
+        check.due("another orchard leaves it", x.trace(5), 20);
     }
 
     private static void counts(OrchardWall x, int... due) {

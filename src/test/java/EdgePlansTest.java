@@ -25,6 +25,7 @@ public final class EdgePlansTest {
         writeIsRefused();
         theBookIsTorn();
         raidersAreAsked();
+        fourRaidersEachHaveTheirOwn();
         treesAreAsked();
         undoTellsHowMany();
         nothingToUndo();
@@ -39,14 +40,15 @@ public final class EdgePlansTest {
         check.says("Terms 2", "CELLS x 0 to 5, y 0 to 3; a CELL's number is 6 y and x.");
         check.says("Terms 2", "FAR: how many CELLS one goes.");
         check.says("Promise 17", "FAR from a CELL to another.");
-        OrchardWall x = new OrchardWall();
         for (int a = 0; a <= 23; a++) {
-            check.due("far from itself", x.far(a, a), 0);
+            OrchardWall y = new OrchardWall();
+            check.due("far from itself", y.far(a, a), 0);
             for (int b = 0; b <= 23; b++) {
                 int far = Math.abs(a % 6 - b % 6) + Math.abs(a / 6 - b / 6);
-                check.due("far " + a + " " + b, x.far(a, b), far);
+                check.due("far " + a + " " + b, y.far(a, b), far);
             }
         }
+        OrchardWall x = new OrchardWall();
         check.due("along", x.far(0, 5), 5);
         check.due("the end of one line and the beginning of the next", x.far(5, 6), 6);
         check.due("down", x.far(0, 18), 3);
@@ -315,6 +317,35 @@ public final class EdgePlansTest {
         check.due("raider least", x.raider(LEAST, 0), BAD);
         check.due("what greatest", x.raider(0, GREATEST), BAD);
         check.due("no orchard", new OrchardWall().raider(0, 0), BAD);
+    }
+
+    private static void fourRaidersEachHaveTheirOwn() {
+        check.says("Promise 15", "1 the TREE of his PLAN (-1: none), 2 APPLES (0), 3 HOW (0), 4 how often he was");
+        OrchardWall x = Check.told("o0,1,1,9,0;t2,9,1;t3,9,1;t8,9,1;t9,9,1;p20;p20;p20;p20;");
+        for (int times = 0; times < 3; times++) {
+            for (int raider = 0; raider < 4; raider++) {
+                x.plan(raider, 3 - raider, 17 + raider, raider % 2);
+            }
+            for (int raider = 0; raider < 4; raider++) {
+                isPlan(x, raider, 3 - raider, 17 + raider, raider % 2);
+                check.due("caught", x.raider(raider, 4), times);
+            }
+            check.due("raids", x.count(4), times);
+            check.due("all are caught", x.ahead(1), 15);
+            // One goes to the next cell alone, and throws in 4.
+            check.due("got", x.raid(), 1);
+            check.due("got by all", x.count(5), times + 1);
+        }
+        for (int times = 2; times >= 0; times--) {
+            x.undo();
+            for (int raider = 0; raider < 4; raider++) {
+                check.due("caught then", x.raider(raider, 4), times);
+                check.due("how then", x.raider(raider, 3), raider % 2);
+            }
+            for (int raider = 0; raider < 4; raider++) {
+                x.undo();
+            }
+        }
     }
 
     private static void treesAreAsked() {

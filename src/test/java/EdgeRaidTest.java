@@ -1,3 +1,6 @@
+import java.util.ArrayList;
+import java.util.List;
+
 /** What "Terms" says of a raid, second by second: paces, picking, hens, the door, the dog, each at its bound. */
 public final class EdgeRaidTest {
     private static final int NONE = OrchardWall.NONE;
@@ -5,6 +8,7 @@ public final class EdgeRaidTest {
 
     public static void main(String[] args) {
         waysGoAlongFirst();
+        allWays();
         waysBackAreTheSame();
         allBeginAtEntry();
         stepsTakeThePace();
@@ -55,6 +59,49 @@ public final class EdgeRaidTest {
         check.due("by 12", one("o5,14,9,9,40;h18,9;t0,9,1;p9;", 1, 0).ahead(2), 4);
         check.due("not by 8 and 2", one("o5,14,9,9,40;h2,9;t0,9,1;p9;", 1, 0).ahead(2), NONE);
         check.due("there and back", one("o5,0,60,9,40;t14,9,1;p9;", 1, 0).ahead(3), 8 + 2 + 8);
+    }
+
+    /** The cells of a way, entry first. */
+    private static List<Integer> way(int entry, int tree) {
+        List<Integer> cells = new ArrayList<>(List.of(entry));
+        int cell = entry;
+        while (cell % 6 != tree % 6) {
+            cell += cell % 6 < tree % 6 ? 1 : -1;
+            cells.add(cell);
+        }
+        while (cell != tree) {
+            cell += cell < tree ? 6 : -6;
+            cells.add(cell);
+        }
+        return cells;
+    }
+
+    /** When the only hens are heard first on the way there, or back; he picks one, which takes two seconds. */
+    private static int heard(List<Integer> way, int hens) {
+        int far = way.size() - 1;
+        for (int step = 1; step <= 2 * far; step++) {
+            int cell = way.get(step <= far ? step : 2 * far - step);
+            if (Math.abs(cell % 6 - hens % 6) + Math.abs(cell / 6 - hens / 6) <= 1) {
+                return 2 * step + (step > far ? 2 : 0);
+            }
+        }
+        return NONE;
+    }
+
+    private static void allWays() {
+        check.says("Terms 2", "CELL by CELL, x first, then y; back the same CELLS.");
+        for (int entry = 0; entry <= 23; entry++) {
+            int house = (entry + 1) % 24;
+            for (int tree = 0; tree <= 23; tree++) {
+                int hens = (5 * entry + 7 * tree) % 24;
+                if (tree != entry) {
+                    String law = "o" + house + "," + entry + ",9,9,40;";
+                    OrchardWall x = one(law + "h" + hens + ",9;t" + tree + ",9,1;p9;", 1, 0);
+                    String name = entry + " to " + tree + ", hens in " + hens;
+                    check.due(name, x.ahead(2), heard(way(entry, tree), hens));
+                }
+            }
+        }
     }
 
     private static void waysBackAreTheSame() {

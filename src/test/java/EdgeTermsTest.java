@@ -315,7 +315,8 @@ public final class EdgeTermsTest {
 
     private static void whatIsFullStaysFull() {
         saysThatNothingChanges();
-        new Twins(check, Tellings::fullTape).refused("feed", x -> x.feed('o'), FULL);
+        // A p in place of what is behind the law would be another fault.
+        new Twins(check, Tellings::fullTape).refused("feed", x -> x.feed('p'), FULL);
         new Twins(check, Tellings::fullBook).refused("write", x -> x.write(0, 1), FULL);
         new Twins(check, Tellings::fullTrees).refused("grow 60 by 1", x -> x.grow(0, 1), FULL);
         new Twins(check, Tellings::fullTrees).refused("grow 31 by 30", x -> x.grow(1, 30), FULL);
@@ -325,5 +326,7 @@ public final class EdgeTermsTest {
         acts.refused("plan", x -> x.plan(0, 0, 21, 0), BAD);
         acts.refused("plan of a watch", x -> x.plan(1, 0, 1, 0), STATE);
         acts.refused("grow", x -> x.grow(0, 31), BAD);
+        acts.refused("restore what was not kept", x -> x.restore(0), STATE);
+        acts.refused("restore none of the two", x -> x.restore(2), BAD);
     }
 }

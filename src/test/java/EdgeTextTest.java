@@ -436,5 +436,11 @@ public final class EdgeTextTest {
         check.due("fewer trees", Check.tell(x, LAW + "p1;"), 0);
         check.due("tree 0 is none", x.tree(0, 0), BAD);
         check.due("raider 1 is none", x.raider(1, 0), BAD);
+        check.due("hens", Check.tell(x, LAW + "h0,1;t2,1,1;p1;"), 1);
+        check.due("none of all", Check.tell(x, LAW), 0);
+        check.due("no hens", x.count(3), 0);
+        check.due("no trees", x.count(1), 0);
+        check.due("no raiders", x.count(2), 0);
+        check.due("raider 0 is none", x.raider(0, 0), BAD);
     }
 }

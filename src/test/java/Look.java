@@ -5,6 +5,9 @@ import java.util.List;
 final class Look {
     private final OrchardWall wall;
     private final List<String> seen = new ArrayList<>();
+    // As they were counted last: a wall is good for 512 calls, and 24 acts take many of them.
+    private int trees = 0;
+    private int raiders = 0;
 
     private Look(OrchardWall wall) {
         this.wall = wall;
@@ -49,12 +52,12 @@ final class Look {
             add("ahead " + what, wall.ahead(what));
         }
         add("hens", wall.count(3));
-        int trees = wall.count(1);
+        trees = wall.count(1);
         for (int tree = 0; tree < trees; tree++) {
             add("cell of " + tree, wall.tree(tree, 0));
             add("worth of " + tree, wall.tree(tree, 2));
         }
-        int raiders = wall.count(2);
+        raiders = wall.count(2);
         for (int raider = 0; raider < raiders; raider++) {
             add("full of " + raider, wall.raider(raider, 0));
             add("kind of " + raider, wall.kind(raider));
@@ -65,11 +68,9 @@ final class Look {
     private void whatActsChange() {
         add("raids", wall.count(4));
         add("got", wall.count(5));
-        int trees = wall.count(1);
         for (int tree = 0; tree < trees; tree++) {
             add("apples of " + tree, wall.tree(tree, 1));
         }
-        int raiders = wall.count(2);
         for (int raider = 0; raider < raiders; raider++) {
             for (int what = 1; what <= 4; what++) {
                 add("raider " + raider + ", " + what, wall.raider(raider, what));
@@ -79,14 +80,22 @@ final class Look {
 
     private void rows() {
         for (int row = 0; row < 8; row++) {
-            for (int i = 0; i < 2; i++) {
-                add("days of row " + row + " from " + i, wall.days(row, i, 9));
-                add("their value, above", wall.daysValue(row, i, 9, -1, 0));
-                add("their value, below", wall.daysValue(row, i, 9, -1, 1));
+            int there = wall.copy(row, 0, row, 0, 0);
+            add("row " + row, there);
+            if (there == 0) {
+                itemsOf(row);
             }
-            add("lane of row " + row, wall.set(row, 0, 70000));
-            add("size of row " + row, wall.drop(row));
         }
+    }
+
+    private void itemsOf(int row) {
+        for (int i = 0; i < 2; i++) {
+            add("days of row " + row + " from " + i, wall.days(row, i, 9));
+            add("their value, above", wall.daysValue(row, i, 9, -1, 0));
+            add("their value, below", wall.daysValue(row, i, 9, -1, 1));
+        }
+        add("lane of row " + row, wall.set(row, 0, 70000));
+        add("size of row " + row, wall.drop(row));
     }
 
     private void acts() {
